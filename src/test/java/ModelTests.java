@@ -18,7 +18,7 @@ public final class ModelTests {
         "air 0 1 D", "wind 1 1 0:9 B", "set 0 4 0:2 S", "faller 0 1 F 0:5", "drift 1 1 F -120:120",
         "steers 1 1 F X X 0:9 B", "barred 0 1 X X", "fall 1 1 F X X 0:4", "fallBy 1 1 F X X Z 0:4",
         "at 1 1 F X X 0:400 0:2", "mean 1 1 F X X B", "exit 1 20 F 0:2", "load 0 1 L X X 1:20 0:60000",
-        "bestLoad 1 40 L X 0:60000 0:2", "order 0 8 L X X 1:20 0:1", "cone 0 20 F 1:3000 0:60000",
+        "bestLoad 1 10 L X 0:60000 0:2", "order 0 8 L X X 1:20 0:1", "cone 0 20 F 1:3000 0:60000",
         "steering 0 1 F X X 0:1", "last 0 1 F", "safe 1 2 X X 0:1", "within 0 2 F X X 0:60000 1:20 Z",
         "stop 0 8 F X X 0:60000 1:20 Z", "knew 1 1 F F X X", "two 0 1 F F 1:20 X X", "habits 0 1 H X X X X 0:9999",
         "crates 0 1 1:5 X X Z", "judge 0 2 F X D", "image 0 4", "restore 0 6", "count 0 1 0:5", "keep 0 1 D 0:1 F",

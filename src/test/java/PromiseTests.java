@@ -439,6 +439,17 @@ public final class PromiseTests {
         due.is("13 half way", y.exit(0, 0), -1000);
         due.is("13 half way", y.exit(0, 1), -1000);
         due.is("13 half way", y.exit(0, 2), 1000);
+        // Carried further than any of them makes good: the outermost.
+        String[] ways = {"+90+90;", "-90-90;"};
+        for (String way : ways) {
+            TenYards w = Due.with("a0 3000;f10 0;");
+            for (int layer = 0; layer < 10; layer++) {
+                Due.read(w, "l" + layer + way);
+            }
+            due.is("13 outermost x", w.exit(0, 0), way.charAt(0) == '+' ? -10000 : 10000);
+            due.is("13 outermost y", w.exit(0, 1), way.charAt(0) == '+' ? -10000 : 10000);
+            due.is("13 outermost off", w.exit(0, 2), 2 * (150 * 90 - 10000));
+        }
         // Of several the least x, then y: by steering home.
         TenYards z = Due.with("f00 0;");
         z.set(2, 3000);
@@ -497,6 +508,7 @@ public final class PromiseTests {
         due.is("15 n", x.bestLoad(1, 0, 60001, 0), LOW - 1);
         due.is("15 n", x.bestLoad(1, 0, -1, 0), LOW - 1);
         due.is("15 what", x.bestLoad(1, 0, 0, 3), LOW - 1);
+        due.is("15 what", x.bestLoad(1, 0, 0, -1), LOW - 1);
         due.is("16 shelf", x.order(8, 0, 0, 1, 0), -1);
         due.is("16 x", x.order(1, 30001, 0, 1, 0), -1);
         due.is("16 gap", x.order(1, 0, 0, 21, 0), -1);
@@ -519,7 +531,22 @@ public final class PromiseTests {
         due.is("15 none: the first", x.bestLoad(0, 10000, 0, 0), -10000);
         due.is("15 none: the first", x.bestLoad(0, 10000, 0, 1), 1);
         due.is("15 none: the first", x.bestLoad(0, 10000, 0, 2), 0);
-        // With boxes at 0 and 500 the GAP of 2 is the least with which all three are good.
+        // The wind takes them 9990 west and the plane 1 a GAP east: only the last x, only the last GAP.
+        TenYards y = Due.with("l0-90+0;l1-90+0;l2-90+0;l3-90+0;l4-90+0;l5-90+0;l6-90+0;l7-90+0;a1 2220;f10 0;");
+        Due.bytes(y, 0, 0, 0);
+        due.is("15 carried", y.fall(0, 10000, 0, 0), 10);
+        due.is("15 edges", y.bestLoad(0, 0, 20, 0), 10000);
+        due.is("15 edges", y.bestLoad(0, 0, 20, 1), 1);
+        due.is("15 edges", y.bestLoad(0, 0, 20, 2), 2);
+        Due.read(y, "b+0-3000+1+3000;b+2-3000+5+3000;");
+        y.set(1, 11);
+        due.is("15 edges", y.bestLoad(0, 0, 120, 0), 10000);
+        due.is("15 edges", y.bestLoad(0, 0, 120, 1), 4);
+        Due.read(y, "b+5-3000+11+3000;");
+        due.is("15 edges", y.bestLoad(0, 0, 120, 0), 10000);
+        due.is("15 edges", y.bestLoad(0, 0, 120, 1), 10);
+        due.is("15 edges", y.bestLoad(0, 0, 120, 2), 1);
+        // With boxes at 500 and -500 the GAP of 2 is the least with which all three are good.
         Due.read(x, "b+50+0+50+0;b-50+0-50+0;");
         due.is("15 barred", x.bestLoad(0, 0, 1000, 0), -1000);
         due.is("15 barred", x.bestLoad(0, 0, 1000, 1), 2);
@@ -543,6 +570,11 @@ public final class PromiseTests {
         Due.bytes(x, 0, 1, 1, 1, 1, 1);
         due.is("16 all the same", x.order(0, 0, 0, 1, 0), 43210);
         due.is("16 all the same", x.order(0, 0, 0, 1, 1), 1000);
+        // They come home by 816, 760, 660, 380 and 0 and leave from 0, 230, .. 920: the last order of all is best.
+        TenYards y = Due.with("a230 300;f20 0;f00 0;f30 0;f40 0;f10 0;");
+        Due.bytes(y, 0, 0, 1, 2, 3, 4);
+        due.is("16 the last", y.order(0, 0, 0, 1, 0), 1234);
+        due.is("16 the last", y.order(0, 0, 0, 1, 1), 104);
         Due.bytes(x, 0, 1);
         due.is("16 one", x.order(0, -7, 9, 1, 0), 0);
         due.is("16 one", x.order(0, -7, 9, 1, 1), 16);
@@ -638,6 +670,9 @@ public final class PromiseTests {
         due.is("21", x.within(0, 0, 0, 40, 20, z), want);
         due.is("21 all", x.within(0, 0, 0, 60000, 20, z), 20);
         due.is("21 none", x.within(0, 0, 500, 499, 1, z), 0);
+        x.set(0, 0);
+        due.is("21 just", x.within(0, 100, -500, 600, 3, z), 3);
+        due.is("21 not quite", x.within(0, 100, -500, 599, 3, z), 0);
         refusedSeeds(x);
     }
 
@@ -650,20 +685,32 @@ public final class PromiseTests {
         }
     }
 
+    /** The least GUST of which papers from 300 feet, 14 SECONDS in LAYER 0, land within m in fewer than half. */
+    private static int stopByHand(int m, int n, int z) {
+        for (int gust = 0; gust <= 30; gust++) {
+            int good = 0;
+            for (int i = 0; i < n; i++) {
+                good += Math.abs(puffs(z + i, gust, 14)) <= m ? 1 : 0;
+            }
+            if (good < n - good) {
+                return gust;
+            }
+        }
+        return -4;
+    }
+
     private static void stops() {
         TenYards x = Due.with("f10 0;g20;");
         x.set(2, 300);
-        for (int m = 10; m <= 60; m += 10) {
-            int want = -4;
-            for (int gust = 30; gust >= 0; gust--) {
-                int good = 0;
-                for (int i = 0; i < 7; i++) {
-                    good += Math.abs(puffs(3 + i, gust, 14)) <= m ? 1 : 0;
-                }
-                want = good < 4 ? gust : want;
+        boolean only30 = false;
+        for (int m = 0; m <= 120; m++) {
+            for (int n = 1; n <= 8; n++) {
+                int want = stopByHand(m, n, 3);
+                only30 |= want == 30;
+                due.is("22 within " + m + " of " + n, x.stop(0, 0, 0, m, n, 3), want);
             }
-            due.is("22 within " + m, x.stop(0, 0, 0, m, 7, 3), want);
         }
+        due.isTrue("22 the greatest gust is among them", only30);
         due.is("22 at once", x.stop(0, 1, 0, 0, 1, 3), 0);
         due.is("22 never", x.stop(0, 0, 0, 60000, 1, 3), -4);
         due.is("22 gust stays", x.count(3), 20);
