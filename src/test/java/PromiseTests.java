@@ -546,6 +546,8 @@ public final class PromiseTests {
         due.is("15 edges", y.bestLoad(0, 0, 120, 0), 10000);
         due.is("15 edges", y.bestLoad(0, 0, 120, 1), 10);
         due.is("15 edges", y.bestLoad(0, 0, 120, 2), 1);
+        Due.read(y, "b+12-3000+12+3000;");
+        due.is("15 no greater gap", y.bestLoad(0, 0, 140, 2), 0);
         // With boxes at 500 and -500 the GAP of 2 is the least with which all three are good.
         Due.read(x, "b+50+0+50+0;b-50+0-50+0;");
         due.is("15 barred", x.bestLoad(0, 0, 1000, 0), -1000);
