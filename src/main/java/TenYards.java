@@ -344,15 +344,7 @@ public final class TenYards {
         if (who == null || !isPlace(x, y) || !isFrom(0, m, MOST_OFF) || !isFrom(1, n, 20)) {
             return NO_SUCH;
         }
-        int good = 0;
-        for (int i = 0; i < n; i++) {
-            fall.begin(who, x, y, z + i);
-            fall.land();
-            if (fall.off() <= m) {
-                good++;
-            }
-        }
-        return good;
+        return goodBySeeds(who, x, y, m, n, z, air.gust);
     }
 
     public int stop(int faller, int x, int y, int m, int n, int z) {
@@ -361,16 +353,7 @@ public final class TenYards {
             return NO_SUCH;
         }
         for (int gust = 0; gust <= MOST_GUST; gust++) {
-            int good = 0;
-            for (int i = 0; i < n; i++) {
-                fall.begin(who, x, y, z + i);
-                fall.gust = gust;
-                fall.land();
-                if (fall.off() <= m) {
-                    good++;
-                }
-            }
-            if (2 * good < n) {
+            if (2 * goodBySeeds(who, x, y, m, n, z, gust) < n) {
                 return gust;
             }
         }
@@ -689,6 +672,19 @@ public final class TenYards {
             Faller who = air.fallerAt(shelf.valueAt(i));
             if (who != null && fall.offFrom(who, Fall.held(x + i * gap * air.plane), y) <= n
                     && !air.bars(fall.x, fall.y)) {
+                good++;
+            }
+        }
+        return good;
+    }
+
+    private int goodBySeeds(Faller who, int x, int y, int m, int n, int z, int gust) {
+        int good = 0;
+        for (int i = 0; i < n; i++) {
+            fall.begin(who, x, y, z + i);
+            fall.gust = gust;
+            fall.land();
+            if (fall.off() <= m) {
                 good++;
             }
         }
