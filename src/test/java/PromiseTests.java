@@ -346,26 +346,16 @@ public final class PromiseTests {
         due.is("9 light, at 3", y.at(1, 0, 0, 3, 1), 4 - 1 - 1);
     }
 
-    /** The DRAWS of a seed, one by one, as the document tells them. */
-    private static int puffs(int z, int gust, int n) {
-        int sum = 0;
-        for (int i = 0; i < n; i++) {
-            z = z * 1103515245 + 12345;
-            sum += (int) ((z & 0x7fffffffL) / 65536 % (2 * gust + 1)) - gust;
-        }
-        return sum;
-    }
-
     private static void fallsBySeeds() {
         TenYards x = Due.with("l0+3+4;f10 0;f60 0;g7;");
         x.set(2, 300);
         int[] seeds = {1, 5, -9, 0, Integer.MAX_VALUE, Integer.MIN_VALUE};
         for (int z : seeds) {
             // The first of 15 SECONDS is in LAYER 1, without WIND or DRAW.
-            due.is("10 x by " + z, x.fallBy(0, 0, 0, z, 0), 14 * 3 + puffs(z, 7, 14));
+            due.is("10 x by " + z, x.fallBy(0, 0, 0, z, 0), 14 * 3 + Draws.puffs(z, 7, 14));
             due.is("10 y by " + z, x.fallBy(0, 0, 0, z, 1), 14 * 4);
             due.is("10 seconds", x.fallBy(0, 0, 0, z, 2), 15);
-            due.is("10 off", x.fallBy(0, 0, 0, z, 3), Math.abs(14 * 3 + puffs(z, 7, 14)) + 56);
+            due.is("10 off", x.fallBy(0, 0, 0, z, 3), Math.abs(14 * 3 + Draws.puffs(z, 7, 14)) + 56);
         }
         due.is("9 by seed 1", x.fall(0, 0, 0, 0), x.fallBy(0, 0, 0, 1, 0));
         due.is("10 what", x.fallBy(0, 0, 0, 1, 5), LOW - 1);
@@ -382,7 +372,7 @@ public final class PromiseTests {
             int east = 3 + (z >>> 16 & 0x7fff) % 15 - 7;
             alongX += Math.abs(east) >= 4 ? Integer.signum(east) * 40 : 0;
         }
-        due.is("10 steers by the gust", x.fall(1, 0, 0, 0), 16 * 3 + puffs(1, 7, 16) + alongX);
+        due.is("10 steers by the gust", x.fall(1, 0, 0, 0), 16 * 3 + Draws.puffs(1, 7, 16) + alongX);
     }
 
     private static void secondsOfFalls() {
@@ -667,7 +657,7 @@ public final class PromiseTests {
         int z = Integer.MAX_VALUE - 3;
         int want = 0;
         for (int i = 0; i < 20; i++) {
-            want += Math.abs(puffs(z + i, 20, 14)) <= 40 ? 1 : 0;
+            want += Math.abs(Draws.puffs(z + i, 20, 14)) <= 40 ? 1 : 0;
         }
         due.is("21", x.within(0, 0, 0, 40, 20, z), want);
         due.is("21 all", x.within(0, 0, 0, 60000, 20, z), 20);
@@ -692,7 +682,7 @@ public final class PromiseTests {
         for (int gust = 0; gust <= 30; gust++) {
             int good = 0;
             for (int i = 0; i < n; i++) {
-                good += Math.abs(puffs(z + i, gust, 14)) <= m ? 1 : 0;
+                good += Math.abs(Draws.puffs(z + i, gust, 14)) <= m ? 1 : 0;
             }
             if (good < n - good) {
                 return gust;
@@ -702,10 +692,9 @@ public final class PromiseTests {
     }
 
     private static void stops() {
-        TenYards x = Due.with("f10 0;g20;");
-        x.set(2, 300);
         boolean only30 = false;
         for (int m = 0; m <= 120; m++) {
+            TenYards x = Due.with("f10 0;g20;a400 300;");
             for (int n = 1; n <= 8; n++) {
                 int want = stopByHand(m, n, 3);
                 only30 |= want == 30;
@@ -713,6 +702,7 @@ public final class PromiseTests {
             }
         }
         due.isTrue("22 the greatest gust is among them", only30);
+        TenYards x = Due.with("f10 0;g20;a400 300;");
         due.is("22 at once", x.stop(0, 1, 0, 0, 1, 3), 0);
         due.is("22 never", x.stop(0, 0, 0, 60000, 1, 3), -4);
         due.is("22 gust stays", x.count(3), 20);
@@ -809,7 +799,7 @@ public final class PromiseTests {
         int least = 0;
         int most = 0;
         for (int n = 1; n <= 5; n++) {
-            int at = puffs(n + 8, 25, 14);
+            int at = Draws.puffs(n + 8, 25, 14);
             least = n == 1 ? at : Math.min(least, at);
             most = n == 1 ? at : Math.max(most, at);
             due.is("26 of " + n, x.crates(n, 0, 0, 9), most - least);
