@@ -38,7 +38,12 @@ final class Meadow {
     static void refuses(Due due, String what, Call call, long want) {
         TenYards x = full();
         due.is(what, call.ask(x), want);
-        due.isTrue(what + ": a refused call changes nothing", all(x).equals(UNTOUCHED));
+        due.isTrue(what + ": a refused call changes nothing", isUntouched(x));
+    }
+
+    /** Looks at everything, THE IMAGE last: the meadow is of no use behind this. */
+    static boolean isUntouched(TenYards x) {
+        return all(x).equals(UNTOUCHED);
     }
 
     private static String all(TenYards x) {

@@ -181,6 +181,8 @@ public final class SeedEdgeTests {
         due.is("24 the last GAP", x.two(0, 1, 15, 0, 0), 150 + 300);
         due.is("24 LANDED as the later one leaves", x.two(0, 1, 16, 0, 0), -4);
         due.is("24 LANDED as the later one leaves", x.two(0, 1, 20, 0, 0), -4);
+        x.set(2, 301);
+        due.is("24 at HEIGHT 1 it has not LANDED", x.two(0, 1, 15, 0, 0), 150 + 300);
         x.set(2, 3000);
         due.is("24 GAP 20", x.two(0, 1, 20, 0, 0), 600);
         // The later one lands first: it FALLS (120) from 300, is at 180, 60, LANDED; the other one SINKS: 280, 260, 240.
